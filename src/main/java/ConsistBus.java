@@ -56,7 +56,7 @@ public final class ConsistBus {
     public int couple(int a, int endA, int b, int endB) throws NoSuchElementException, IllegalStateException {
         End one = endOf(a, endA);
         End other = endOf(b, endB);
-        if (one.peer != null || other.peer != null || trueRun(carOf(a)).placeOf(b) != 0) {
+        if (one.peer != null || other.peer != null || trueRun(carOf(a)).numberOf(b) != 0) {
             throw new IllegalStateException("an end is coupled, or both cars are of one run");
         }
         int number = freeNumber();
@@ -292,7 +292,7 @@ public final class ConsistBus {
         }
 
         /** The number of the car with this id, 0 if it is not here. */
-        int placeOf(int id) {
+        int numberOf(int id) {
             for (int k = 0; k < size; k++) {
                 if (items[k] >> 1 == id) {
                     return k + 1;
@@ -554,7 +554,7 @@ public final class ConsistBus {
                 return;
             }
             directory.copyFrom(draft);
-            number = directory.placeOf(id);
+            number = directory.numberOf(id);
             Arrays.fill(ages, NONE);
             changes++;
         }

@@ -22,7 +22,7 @@ public final class ModelTest {
 
     public static void main(String[] args) {
         Checks checks = new Checks();
-        for (int seed = 0; seed < 1500; seed++) {
+        for (int seed = 0; seed < 600; seed++) {
             checks.at("model, seed " + seed);
             new ModelTest(checks, seed).play();
         }
