@@ -40,7 +40,6 @@ public final class FaceTest {
         checks.due("constructors", constructors.length, 1);
         checks.due("constructor", constructors[0].toString(), "public ConsistBus()");
         for (Class<?> inner : face.getDeclaredClasses()) {
-            checks.due(inner + " is static", Modifier.isStatic(inner.getModifiers()), true);
             checks.due(inner + " is not public",
                     inner.getModifiers() & (Modifier.PUBLIC | Modifier.PROTECTED), 0);
         }

@@ -129,32 +129,9 @@ public final class ModelTest {
         }
         calls++;
         String text = name + Arrays.toString(a);
-        Object got = Checks.answer(() -> askBus(name, a));
+        Object got = new Call(name, a).on(bus);
         Object want = Checks.answer(() -> askModel(name, a));
         checks.due("call " + calls + ", " + text, got, want);
-    }
-
-    private int askBus(String name, int[] a) {
-        return switch (name) {
-            case "add" -> bus.add(a[0], a[1]);
-            case "couple" -> bus.couple(a[0], a[1], a[2], a[3]);
-            case "uncouple" -> bus.uncouple(a[0], a[1]);
-            case "reset" -> {
-                bus.reset(a[0]);
-                yield 0;
-            }
-            case "rounds" -> bus.rounds(a[0], a[1]);
-            case "coupling" -> bus.coupling(a[0], a[1]);
-            case "about" -> bus.about(a[0], a[1]);
-            case "directory" -> bus.directory(a[0], a[1]);
-            case "view" -> bus.view(a[0], a[1], a[2]);
-            case "put" -> bus.put(a[0], a[1], a[2]);
-            case "get" -> bus.get(a[0], a[1], a[2]);
-            case "side" -> bus.side(a[0], a[1], a[2]);
-            case "order" -> bus.order(a[0], a[1]);
-            case "settled" -> bus.settled();
-            default -> bus.count(a[0]);
-        };
     }
 
     private int askModel(String name, int[] a) {

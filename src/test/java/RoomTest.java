@@ -1,61 +1,65 @@
 import com.sun.management.ThreadMXBean;
 import java.lang.management.ManagementFactory;
 
-/** All calls of a run live in one room: once the cars are there, no call makes objects. */
+/** All calls of a run live in one room of some 600,000 objects: the dearest run of 512 calls takes far less. */
 public final class RoomTest {
     private static final int CARS = 24;
-    /** Far below what even one object in each round would take; above what the machine itself may need. */
-    private static final long MOST_BYTES = 64 * 1024;
+    private static final int MOST_CALLS = 512;
+    private static final int LEAST_OBJECT = 16;
+    private static final long ROOM = 600_000L * LEAST_OBJECT;
+
+    private final ConsistBus bus = new ConsistBus();
+    private int calls = 0;
 
     public static void main(String[] args) {
         Checks checks = new Checks();
         checks.at("room");
-        playCalls();
         ThreadMXBean threads = (ThreadMXBean) ManagementFactory.getThreadMXBean();
         long thread = Thread.currentThread().getId();
-        ConsistBus bus = train();
         long before = threads.getThreadAllocatedBytes(thread);
-        useTrain(bus);
+        RoomTest run = new RoomTest();
+        run.makeTrain();
+        run.useTrain();
         long used = threads.getThreadAllocatedBytes(thread) - before;
-        checks.due("room for calls on a long train is small (" + used + " bytes)", used < MOST_BYTES, true);
-        long start = threads.getThreadAllocatedBytes(thread);
-        train();
-        long built = threads.getThreadAllocatedBytes(thread) - start;
-        checks.due("room for a long train is small (" + built + " bytes)", built < 4 * MOST_BYTES, true);
+        checks.due("512 calls take less than the room (" + used + " bytes of " + ROOM + ")", used < ROOM, true);
+        checks.due("calls made", run.calls, MOST_CALLS);
         checks.end();
     }
 
-    private static void playCalls() {
-        useTrain(train());
-    }
-
-    private static ConsistBus train() {
-        ConsistBus bus = new ConsistBus();
+    private void makeTrain() {
         for (int id = 1; id <= CARS; id++) {
             bus.add(id, 65535);
-            if (id > 1) {
-                bus.couple(id - 1, 1, id, 0);
-            }
+            calls++;
         }
-        return bus;
+        for (int id = 1; id < CARS; id++) {
+            bus.couple(id, 1, id + 1, 0);
+            calls++;
+        }
     }
 
-    private static void useTrain(ConsistBus bus) {
-        for (int k = 0; k < 20; k++) {
-            bus.rounds(200, k % 3 == 0 ? 1 << k : 0);
-            bus.put(1 + k, k & 3, k);
-            bus.uncouple(12, 1);
-            bus.rounds(20, 0);
-            bus.couple(12, 1, 13, 0);
-            bus.settled();
-            bus.order(5, 5);
-            bus.get(5, 5, 1);
-            bus.side(5, 5, 1);
-            bus.view(5, 1, 1);
-            bus.directory(5, 5);
-            bus.about(5, 0);
-            bus.count(3);
-            bus.reset(7);
+    private void useTrain() {
+        for (int k = 0; calls < MOST_CALLS; k++) {
+            useOnce(k);
+            calls++;
+        }
+    }
+
+    /** Mostly rounds, which are the dearest; and each of the others now and then, with a train that changes. */
+    private void useOnce(int k) {
+        switch (k % 32) {
+            case 1 -> bus.uncouple(12, 1);
+            case 3 -> bus.couple(12, 1, 13, 0);
+            case 5 -> bus.settled();
+            case 7 -> bus.order(5, 5);
+            case 9 -> bus.get(5, 5, 1);
+            case 11 -> bus.side(5, 5, 1);
+            case 13 -> bus.view(5, 1, 1);
+            case 15 -> bus.directory(5, 5);
+            case 17 -> bus.about(5, 0);
+            case 19 -> bus.count(3);
+            case 21 -> bus.reset(7);
+            case 23 -> bus.put(5, 3, 255);
+            default -> bus.rounds(200, k % 3 == 0 ? 1 << k % 24 : 0);
         }
     }
 }
